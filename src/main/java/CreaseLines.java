@@ -1343,7 +1343,7 @@ public final class CreaseLines {
         }
 
         boolean isNumber(int place) {
-            return places[place] != NONE;
+            return hasPlace(place) && places[place] != NONE;
         }
     }
 

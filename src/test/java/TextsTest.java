@@ -9,6 +9,7 @@ public final class TextsTest {
         texts();
         faults();
         depths();
+        afterFaults();
         values();
         textTold();
         why();
@@ -123,6 +124,13 @@ public final class TextsTest {
         refuses("press H", 6);
         refuses("3press", 0);
         refuses("(press h)", 0);
+        refuses("pressz h", 0);
+        refuses("pressa h", 0);
+        refuses("press 10009", 6);
+        refuses("press 90000", 6);
+        refuses("press 0`", 7);
+        refuses("press 0{", 7);
+        refuses("press 0:", 7);
     }
 
     private static void depths() {
@@ -148,6 +156,20 @@ public final class TextsTest {
         refuses("fee " + "1|0&1<1+1*(".repeat(7) + "9" + ")".repeat(6), 88);
     }
 
+    /** What a faulty text left open is not open in the next one. */
+    private static void afterFaults() {
+        CreaseLines x = new CreaseLines();
+        String deep = "!(".repeat(8);
+        due.is("a fault", Due.text(x, "fee " + deep + "1<"), -122);
+        due.is("a text", Due.text(x, "fee " + deep + "1<2" + ")".repeat(8)), 0);
+        due.is("a fault", Due.text(x, "fee 1<("), -107);
+        due.is("a text", Due.text(x, "fee 1<2"), 1);
+        due.is("a text", Due.text(x, "fee 5"), 2);
+        due.is("a word needs no blank at the beginning", Due.text(x, "fee 6"), 3);
+        due.is("it counts", x.fee(), 6);
+        due.is("numbers and names", x.textTold(3, 1), 1);
+    }
+
     private static void gives(String text, int want) {
         CreaseLines x = new CreaseLines();
         x.leg(0, 0, 7);
@@ -170,6 +192,8 @@ public final class TextsTest {
         gives("s/(k-3)", 0);
         gives("s>k", 1);
         gives("s<k", 0);
+        gives("s<7", 0);
+        gives("s>7", 0);
         gives("s=7", 1);
         gives("s=k", 0);
         gives("1+1<1", 0);

@@ -8,6 +8,7 @@ public final class ThoughtsTest {
         behind();
         dulls();
         doubles();
+        doublesLate();
         wax();
         iron();
         first();
@@ -70,6 +71,7 @@ public final class ThoughtsTest {
         x.leg(5, 0, 67);
         due.is("behind 200 just", x.dulls(1, 33), 200);
         due.is("behind 203", x.dulls(1, 32), NONE);
+        due.is("behind 201", x.dulls(2, 1), NONE);
         due.is("dulls, v 100", x.dulls(0, 100), BAD);
         due.is("dulls, v -1", x.dulls(0, -1), BAD);
         due.is("dulls, leg", x.dulls(3, 1), BAD);
@@ -94,6 +96,35 @@ public final class ThoughtsTest {
             }
             due.is("doubles, seed " + seed, a.doubles(2), b.told(2, 3) > 0 ? day : NONE);
         }
+    }
+
+    /** Three TWEED legs, one of which is below CARE behind so many days first, and pressed then. */
+    private static CreaseLines dullLate(int seed, int leg, int sharp) {
+        CreaseLines x = new CreaseLines();
+        x.rule(0, 0);
+        x.rule(1, 0);
+        x.rule(2, 4);
+        for (int i = 0; i < 3; i++) {
+            x.leg(5, 0, i == leg ? sharp : 99);
+        }
+        x.seed(seed);
+        return x;
+    }
+
+    private static void doublesLate() {
+        int found = 0;
+        for (int seed = 0; seed < 8; seed++) {
+            CreaseLines y = dullLate(seed, 1, 70);
+            y.days(100);
+            y.days(99);
+            due.is("not pressed yet", y.closet(0), 0);
+            due.is("pressed behind 200", y.days(1), 1);
+            boolean two = y.told(1, 3) > 0;
+            found += two ? 1 : 0;
+            due.is("doubles behind 200", dullLate(seed, 1, 70).doubles(1), two ? 200 : NONE);
+            due.is("doubles behind 201", dullLate(seed, 2, 70).doubles(2), NONE);
+        }
+        due.isTrue("some have two", found > 0);
     }
 
     private static void wax() {
@@ -195,6 +226,18 @@ public final class ThoughtsTest {
             due.is("first by trying", dealt(seed, 4).first(60, 0), best);
             due.is("most by trying", dealt(seed, 4).first(60, 1), most);
         }
+        firstIsAlong();
+    }
+
+    private static void firstIsAlong() {
+        CreaseLines x = still();
+        x.rule(1, 0);
+        x.leg(0, 0, 99);
+        x.set(0, 5, 5);
+        Due.text(x, "press o");
+        // pressed now, and once more behind a day: TAKES is HOLDS, 6 by then
+        x.rule(2, 99);
+        due.is("BESIDE by 0 holds", x.first(1, 1), 6);
     }
 
     private static void becomes() {
