@@ -14,6 +14,8 @@ public final class RowsBoundsTest {
         back();
         imageKeeps();
         imageLeaves();
+        imageFull();
+        newWhereOneWas();
         count();
         wholeRun();
         due.end();
@@ -357,6 +359,58 @@ public final class RowsBoundsTest {
             count 8 -> 6
             text -> 2
             fine 0 -> 50
+            """);
+    }
+
+    /** All that an image can keep at most. */
+    private static void imageFull() {
+        Run run = of("AN IMAGE keeps all but SHEETS, SLOTS, numbers that wait, THE TAPE", "rule 0 0 -> 20\nrule 2 0 -> 40");
+        for (int i = 0; i < 10; i++) {
+            run.line("leg 5 " + i + " " + (90 + i) + " -> " + i);
+        }
+        for (int i = 0; i < 14; i++) {
+            run.line("says \"fee " + i + "\" -> " + i);
+        }
+        run.goes("""
+            keep -> 10
+            says "fee 14" -> FULL
+            behind 10 0 -> 0
+            behind 10 12 -> 98
+            set 9 2 0 -> 99
+            back -> 10
+            fee -> 13
+            count 6 -> 14
+            told 9 2 -> 99
+            tell 0 -> 1
+            tell 944 -> 2
+            check 1 -> 0
+            """);
+    }
+
+    /** A leg in a place that held another one begins as told. */
+    private static void newWhereOneWas() {
+        of("TRAM 0 .. 99 (how sharp a second crease is; 0 at first), KNEE 0 .. 99 (0 at first), HOLDS 0 .. 9 (how often it was pressed there; 0 at first)", """
+            keep -> 0
+            leg 4 9 9 -> 0
+            set 0 3 5 -> 0
+            set 0 4 6 -> 0
+            set 0 5 7 -> 0
+            back -> 0
+            leg 1 2 3 -> 0
+            told 0 0 -> 1
+            told 0 1 -> 2
+            told 0 2 -> 3
+            told 0 3 -> 0
+            told 0 4 -> 0
+            told 0 5 -> 0
+            set 0 3 5 -> 0
+            set 0 4 6 -> 0
+            set 0 5 7 -> 0
+            back -> 0
+            deal 1 -> 1
+            told 0 3 -> 0
+            told 0 4 -> 0
+            told 0 5 -> 0
             """);
     }
 

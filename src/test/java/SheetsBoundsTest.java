@@ -12,6 +12,7 @@ public final class SheetsBoundsTest {
         pour();
         pourHeld();
         pourBeyond();
+        pourTen();
         reads();
         readsPlaces();
         copy();
@@ -272,6 +273,18 @@ public final class SheetsBoundsTest {
                 run.line("told " + i + " 2 -> " + (i < come ? 0 : 50));
             }
         }
+    }
+
+    private static void pourTen() {
+        Run run = of("SHARP of LEGS, by numbers, becomes the places of a SHEET from 0 on", "sheet 0 0 24 -> 24");
+        for (int i = 0; i < 24; i++) {
+            run.line("mark 0 " + i + " " + (i + 1) + " -> 1");
+        }
+        run.line("pour 0 -> 0");
+        for (int i = 0; i < 10; i++) {
+            run.line("leg 0 0 50 -> " + i).line("pour 0 -> 1").line("told " + i + " 2 -> " + (i + 1));
+        }
+        run.line("pour 0 -> 0").line("closet 3 -> 55").line("count 0 -> 10");
     }
 
     private static void reads() {

@@ -23,6 +23,8 @@ public final class TextsBoundsTest {
         openParentheses();
         openNots();
         eachByItself();
+        behindFaults();
+        loosestFirst();
         cuts();
         wraps();
         byNought();
@@ -203,7 +205,7 @@ public final class TextsBoundsTest {
         reads(sentence, "press 1", -1);
         reads(sentence, "fee 1", -1);
         reads(sentence, "fine 1", -1);
-        for (String wrong : new String[] {"pres 1", "presss 1", "fe 1", "feee 1", "fin 1", "finee 1", "Fee 1", "FEE 1", "fees 1", "1 fee", "(fee 1)", "!fee 1", "p", "press1x", "h"}) {
+        for (String wrong : new String[] {"pres 1", "presss 1", "fe 1", "feee 1", "fin 1", "finee 1", "Fee 1", "FEE 1", "fees 1", "bress 1", "gee 1", "wine 1", "presz 1", "feb 1", "fint 1", "1 fee", "(fee 1)", "!fee 1", "p", "press1x", "h"}) {
             reads(sentence, wrong, wrong.startsWith("press1") ? 5 : 0);
         }
     }
@@ -405,7 +407,76 @@ public final class TextsBoundsTest {
         reads(sentence, "fee " + "!".repeat(8) + "(".repeat(9) + "p" + ")".repeat(9), 20);
     }
 
+    /** What a text with a fault left open is not open in the next one. */
+    private static void behindFaults() {
+        String deep = "!(".repeat(8);
+        of("an act that reads it uses it up, whatever it answers", "leg 0 0 50 -> 0")
+            .line("says \"fee " + deep + "1<\" -> -122")
+            .line("says \"fee " + deep + "1<2" + ")".repeat(8) + "\" -> 0").goes("""
+            fee -> 1
+            says "fee 1<" -> -106
+            says "fee 1<2" -> 1
+            fee -> 1
+            says "fee 1+2*3+" -> -110
+            says "fee 5" -> 2
+            fee -> 5
+            textTold 2 1 -> 1
+            says "fee 1)" -> -105
+            says "fee !!!!!!!!!" -> -112
+            says "fee !!!!!!!!7" -> 3
+            fee -> 1
+            says "fee (((((((((" -> -112
+            says "fee ((((((((7))))))))" -> 4
+            fee -> 7
+            says "fee (1<2" -> -108
+            says "fee (1<2)<3" -> 5
+            says "fee 8)" -> -105
+            says "fee !" -> -105
+            says "fee 7" -> 6
+            fee -> 7
+            says "fee 9-!" -> -107
+            says "fee 7-2" -> 7
+            fee -> 5
+            # a word at the beginning needs no blank, whatever stood last
+            says "fee 9" -> 8
+            says "fee 9" -> 9
+            """);
+    }
+
     // ---- what a TEXT gives
+
+    private static void loosestFirst() {
+        String sentence = "E, the loosest first: OR: AND { | AND }; AND: TEST { & TEST }; TEST: SUM [ (< | = | >) SUM ]; SUM: TERM { (+ | -) TERM }; TERM: PIECE { (* | /) PIECE }";
+        gives(sentence, "1|1&0", 1);
+        gives(sentence, "0&1|1", 1);
+        gives(sentence, "(1|1)&0", 0);
+        gives(sentence, "0&(1|1)", 0);
+        gives(sentence, "(0|1)*5", 5);
+        gives(sentence, "2&2=2", 1);
+        gives(sentence, "(2&2)=2", 0);
+        gives(sentence, "0=0&0", 0);
+        gives(sentence, "0=(0&0)", 1);
+        gives(sentence, "1<1+1", 1);
+        gives(sentence, "(1<1)+1", 1);
+        gives(sentence, "0<1+1", 1);
+        gives(sentence, "(0<1)+1", 2);
+        gives(sentence, "2+3*4", 14);
+        gives(sentence, "(2+3)*4", 20);
+        gives(sentence, "2*3+4", 10);
+        gives(sentence, "9-8/4", 7);
+        gives(sentence, "9-3-2", 4);
+        gives(sentence, "9-(3-2)", 8);
+        gives(sentence, "9-3+2", 8);
+        gives(sentence, "99/9/2", 5);
+        gives(sentence, "99/(9/2)", 24);
+        gives(sentence, "7/2*2", 6);
+        gives(sentence, "2*7/2", 7);
+        gives(sentence, "!0+1", 2);
+        gives(sentence, "!0*5", 5);
+        gives(sentence, "!1=0", 1);
+        gives(sentence, "!(1=0)", 1);
+        gives(sentence, "!0=0", 0);
+    }
 
     private static void gives(String sentence, String text, int want) {
         of(sentence, """

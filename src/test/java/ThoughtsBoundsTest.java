@@ -20,12 +20,14 @@ public final class ThoughtsBoundsTest {
         ironLeast();
         first();
         firstLeast();
+        firstAlong();
         becomes();
         becomesLeast();
         like();
         likeLeast();
         likeNumbers();
         likeDays();
+        likeTen();
         fee();
         fine();
         due.end();
@@ -574,6 +576,19 @@ public final class ThoughtsBoundsTest {
             """);
     }
 
+    private static void firstAlong() {
+        // along: HOLDS 5 becomes 6, by which it is pressed again; beside it would be 1
+        of("PRESSED now, BESIDE by 0", """
+            rule 0 0 -> 20
+            rule 1 0 -> 1
+            rule 2 99 -> 40
+            says "press o" -> 0
+            leg 0 0 99 -> 0
+            set 0 5 5 -> 0
+            first 1 1 -> 6
+            """);
+    }
+
     private static void becomes() {
         String sentence = "BECOMES of a LEG, for n (1 .. 60): what 0 the KIND, 1 SHARP of all, together. BAD.";
         busy(sentence, """
@@ -757,6 +772,22 @@ public final class ThoughtsBoundsTest {
             mark 0 1 NONE -> 1
             mark 0 2 59 -> 1
             like 0 1 -> 1
+            """);
+    }
+
+    private static void likeTen() {
+        Run run = of("the LEG of which PLACE behind k DAYS", STILL);
+        for (int i = 0; i < 10; i++) {
+            run.line("leg 0 " + (59 - i) + " 50 -> " + i);
+        }
+        run.goes("""
+            sheet 0 0 24 -> 24
+            like 0 0 -> 9
+            like 0 1 -> 1200
+            sheet 1 1 24 -> 24
+            mark 1 23 60 -> 1
+            like 1 0 -> 9
+            like 1 1 -> 1160
             """);
     }
 
